@@ -1,0 +1,14 @@
+/** Runs every test of the project; ends with exit code 1 if one failed. */
+public final class AllTests {
+  private AllTests() {
+  }
+
+  public static void main(String[] args) {
+    NumbersTest.run();
+    SumsTest.run();
+    ChoicesTest.run();
+    TwoHoardsTest.run();
+    TheoremTest.run();
+    System.exit(Check.close());
+  }
+}
