@@ -9,6 +9,9 @@ public final class AllTests {
     ChoicesTest.run();
     TwoHoardsTest.run();
     TheoremTest.run();
+    FaceTest.run();
+    RoomTest.run();
+    ModelTest.run();
     System.exit(Check.close());
   }
 }
