@@ -22,21 +22,17 @@ final class ModelTest {
   private final Sumhoard x = new Sumhoard();
   private final Model model = new Model();
   private final int greatest;
-  private final int growth;
   private long seed;
 
-  private ModelTest(long seed, int greatest, int growth) {
+  private ModelTest(long seed, int greatest) {
     this.seed = seed;
     this.greatest = greatest;
-    this.growth = growth;
   }
 
   static void run() {
     int[] greatests = {1, 2, 4, 9, 15, 24, 40, 60, 120};
     for (int i = 0; i < 90; i++) {
-      // A greatest number above 24 seldom lets a hoard grow beyond 12, which keeps Model quick.
-      int greatest = greatests[i % greatests.length];
-      new ModelTest(i + 1L, greatest, greatest > 15 || i < 9 ? 4 : 1).play(i);
+      new ModelTest(i + 1L, greatests[i % greatests.length]).play(i);
     }
   }
 
@@ -57,7 +53,8 @@ final class ModelTest {
 
   private void play(int run) {
     for (int call = 0; call < RUN; call++) {
-      String told = below(5) < growth ? CALLS[below(2)] : CALLS[below(CALLS.length)];
+      // Without more adds than other calls, takeOut and clear keep the hoards small.
+      String told = CALLS[below(below(4) == 0 ? 2 : CALLS.length)];
       if (told.startsWith("clear") && below(3) > 0) {
         told = "takeOut hp";
       }
@@ -67,27 +64,17 @@ final class ModelTest {
       Object got = answerOf(ofClass.get(name), x, given);
       String what = "run " + run + " call " + call + ": " + name + java.util.Arrays.toString(given);
       Check.same(what, due, got);
-      Check.same(what + ", the state behind it", stateOfModel(), stateOfClass());
+      for (int hoard = 0; hoard < 2; hoard++) {
+        Check.same(what + ", hoard " + hoard, numbersOfModel(hoard), Check.numbersOf(x, hoard));
+      }
     }
     Check.same("run " + run + ": checksum", model.checksum(), x.checksum());
   }
 
-  private String stateOfModel() {
+  private String numbersOfModel(int hoard) {
     StringBuilder text = new StringBuilder();
-    for (int hoard = 0; hoard < 2; hoard++) {
-      for (int place = 0; place < model.size(hoard); place++) {
-        text.append(model.number(hoard, place)).append(hoard == 0 ? ',' : ';');
-      }
-    }
-    return text.toString();
-  }
-
-  private String stateOfClass() {
-    StringBuilder text = new StringBuilder();
-    for (int hoard = 0; hoard < 2; hoard++) {
-      for (int place = 0; place < x.size(hoard); place++) {
-        text.append(x.number(hoard, place)).append(hoard == 0 ? ',' : ';');
-      }
+    for (int place = 0; place < model.size(hoard); place++) {
+      text.append(place == 0 ? "" : ",").append(model.number(hoard, place));
     }
     return text.toString();
   }

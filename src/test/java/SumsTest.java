@@ -190,6 +190,7 @@ final class SumsTest {
     Check.answers("20: the least one of two", 8, () -> four().most(0));
     Check.answers("20: all sums once", 0, () -> four().most(1));
     Check.answers("20: ones", 10, () -> ones().most(0));
+    Check.answers("20: 1 of 1, 1", 1, () -> Check.with(1, 1).most(0));
     Check.answers("20: heavy", 120, () -> heavy().most(0));
     Check.answers("20: none", 0, () -> new Sumhoard().most(0));
     Check.answers("20: 20 times 15", 150,
@@ -230,6 +231,10 @@ final class SumsTest {
     Check.answers("22: 0 of none", 1, () -> new Sumhoard().withMany(0, 0));
     Check.answers("22: 1 of none", 0, () -> new Sumhoard().withMany(0, 1));
     Check.answers("22: 2 of the heavy", 2, () -> heavy().withMany(0, 2));
+    Sumhoard changing = heavy();
+    Check.answers("22: 3 of the heavy", 1, () -> changing.withMany(0, 3));
+    changing.exchange(0, 2, 59);
+    Check.answers("22: 3 of the heavy, one number less", 1, () -> changing.withMany(0, 3));
     for (int wrong : new int[] {-1, 21, 32, Integer.MIN_VALUE, Integer.MAX_VALUE}) {
       Check.refuses("22: " + wrong + " places", NO_VALUE, x, () -> x.withMany(0, wrong));
       Check.refuses("22: no hoard first", NO_PLACE, x, () -> x.withMany(2, wrong));

@@ -19,6 +19,7 @@ final class TheoremTest {
       holdsOf(Check.with(numbers));
       holdsOfSome(Check.with(numbers));
     }
+    holdsOfOneObject();
     promise33IsPartedWrong();
     promise34IsAllWrong();
     promise35IsLeftWrong();
@@ -27,6 +28,26 @@ final class TheoremTest {
     promise38ChecksumOfNone();
     promise38Checksum();
     promise38ChecksumOfFull();
+  }
+
+  /** Rows that are used again must not keep what an earlier hoard left in them. */
+  private static void holdsOfOneObject() {
+    Sumhoard x = new Sumhoard();
+    for (int[] numbers : HOARDS) {
+      x.clear(0);
+      for (int number : numbers) {
+        x.add(0, number);
+      }
+      int all = (1 << numbers.length) - 1;
+      playChoice(x, all & 0x55555);
+      playChoice(x, all & 0xff);
+      for (int place = 0; place < numbers.length; place += 3) {
+        int told = place;
+        Check.answers("35: " + Check.numbersOf(x, 0) + ", used again", true, () -> x.isLeft(0, told));
+      }
+      Check.answers("36: " + Check.numbersOf(x, 0) + ", used again", true, () -> x.isOftenAlike(0));
+      Check.answers("37: " + Check.numbersOf(x, 0) + ", used again", true, () -> x.isSound());
+    }
   }
 
   private static void holdsOf(Sumhoard x) {
