@@ -1,6 +1,6 @@
 import java.util.NoSuchElementException;
 
-/** Sums that can be made of the numbers of two hoards; the document's promises stand in its order. */
+/** Sums that can be made of the numbers of two hoards; the promises stand in their order. */
 public final class Sumhoard {
   private static final int MOST_NUMBERS = 20;
   private static final int MOST_NUMBER = 120;
@@ -656,7 +656,7 @@ public final class Sumhoard {
       return words.length == other.words.length;
     }
 
-    /** Shifts aside, to the left or, below 0, to the right, as a number may be joined with itself. */
+    /** Shifts aside, as a number may be joined with itself; to the right if it is by below 0. */
     private void shift(Bits from, int by) {
       int byWords = by >> 6;
       int byBits = by & 63;
@@ -873,7 +873,7 @@ public final class Sumhoard {
     }
   }
 
-  /** Plays the theorem: its rows are made in both ways that it tells, and held against each other. */
+  /** Plays the theorem: makes its rows in both ways that it tells, and compares them. */
   private static final class Theorem {
     private final Hoard part = new Hoard();
     private final Hoard rest = new Hoard();
