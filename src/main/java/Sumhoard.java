@@ -766,8 +766,8 @@ public final class Sumhoard {
     }
 
     void carry(int from, int to) {
-      if (isCell(from) && isCell(to)) {
-        set[to] |= set[from];
+      if (isCell(from) && isCell(to) && set[from]) {
+        set[to] = true;
       }
     }
 

@@ -9,6 +9,13 @@ public final class AllTests {
     ChoicesTest.run();
     TwoHoardsTest.run();
     TheoremTest.run();
+    LimitsTest.run();
+    NumbersEdgesTest.run();
+    SumsEdgesTest.run();
+    ChoicesEdgesTest.run();
+    TwoHoardsEdgesTest.run();
+    TheoremEdgesTest.run();
+    TermsTest.run();
     FaceTest.run();
     RoomTest.run();
     ModelTest.run();

@@ -32,6 +32,13 @@ final class Check {
     same(what + ", the state behind it", before, stateOf(x));
   }
 
+  /** The call answers; what it answers is the matter of another test. */
+  static void taken(String what, Call call) {
+    Object got = outcomeOf(call);
+    boolean isRefused = got instanceof String text && text.startsWith("throws ");
+    same(what + " is taken, not " + got, false, isRefused);
+  }
+
   /** The answer, or the text "throws " and the exception's name. */
   static Object outcomeOf(Call call) {
     try {
