@@ -15,6 +15,7 @@ public final class AllTests {
     ChoicesEdgesTest.run();
     TwoHoardsEdgesTest.run();
     TheoremEdgesTest.run();
+    PlaysTest.run();
     TermsTest.run();
     FaceTest.run();
     RoomTest.run();

@@ -50,6 +50,7 @@ final class SumsEdgesTest {
     Check.answers("13: all of them", true, () -> x.isSum(1, 120, false));
     Check.answers("13: above all of them", false, () -> x.isSum(1, 180, false));
     Check.answers("13: above all of them, often", true, () -> x.isSum(1, 180, true));
+    Check.answers("13: 300 is 75 doubled twice", true, () -> Check.with(75).isSum(0, 300, true));
     Check.answers("13: 300 times 1", true, () -> ones(1).isSum(0, 300, true));
   }
 
@@ -58,6 +59,7 @@ final class SumsEdgesTest {
     Check.answers("14: 0 alone, often", 1, () -> new Sumhoard().sums(0, true));
     Check.answers("14: 300 is the last one", 6, () -> Check.with(60).sums(0, true));
     Check.answers("14: 300 is behind 299", 4, () -> Check.with(100).sums(0, true));
+    Check.answers("14: 300 is 75 doubled twice", 5, () -> Check.with(75).sums(0, true));
     Check.answers("14: 305 is too much", 5, () -> Check.with(61).sums(0, true));
     Check.answers("14: all 301 once", 301, () -> dense().sums(0, false));
     Check.answers("14: all 301 often", 301, () -> ones(1).sums(0, true));
@@ -68,6 +70,7 @@ final class SumsEdgesTest {
     Check.answers("15: 0 itself, often", 0, () -> new Sumhoard().next(0, 0, true));
     Check.answers("15: 300 itself", 300, () -> dense().next(0, 300, false));
     Check.answers("15: 300 itself, often", 300, () -> Check.with(100).next(0, 300, true));
+    Check.answers("15: 300 is 75 doubled twice", 300, () -> Check.with(75).next(0, 226, true));
     Check.answers("15: far below it", 120, () -> Check.with(120).next(0, 1, false));
     Check.answers("15: one below it", 120, () -> Check.with(120).next(0, 119, false));
     Check.answers("15: it itself", 120, () -> Check.with(120).next(0, 120, false));
@@ -196,8 +199,10 @@ final class SumsEdgesTest {
     }
     Check.answers("21: five", 5, () -> x.fewest(0, 300, true));
     Check.answers("21: 300 times 1", 300, () -> ones(20).fewest(0, 300, true));
-    Check.answers("21: 20 of 20", 20, () -> Check.with(Check.repeated(15, 20)).fewest(0, 300, false));
-    Check.answers("21: fewer than the greatest first", 2, () -> Check.with(9, 7, 7, 5, 1).fewest(0, 14, false));
+    Check.answers("21: 20 of 20", 20,
+        () -> Check.with(Check.repeated(15, 20)).fewest(0, 300, false));
+    Check.answers("21: fewer than with the greatest one", 2,
+        () -> Check.with(9, 7, 7, 4, 1).fewest(0, 14, false));
   }
 
   private static void promise21ThrowsIfItIsNotMade() {

@@ -82,7 +82,7 @@ final class TheoremEdgesTest {
 
   private static void promise36CutAt300() {
     int[][] hoards = {
-      {}, {1}, {60}, {61}, {100}, {101}, {120}, {119, 120}, {120, 120, 60}, {2, 3}
+      {}, {1}, {60}, {61}, {75}, {76}, {100}, {101}, {120}, {119, 120}, {120, 120, 60}, {2, 3}
     };
     for (int[] numbers : hoards) {
       Sumhoard x = Check.with(numbers);
@@ -126,11 +126,13 @@ final class TheoremEdgesTest {
   }
 
   private static void promise38SevenAtFirst() {
-    BigInteger power = BigInteger.valueOf(31).pow(301);
-    // 7, no numbers, one way of 0 and 300 zeros, twice.
-    BigInteger one = BigInteger.valueOf(7 * 31).multiply(power).add(power.divide(BigInteger.valueOf(31)));
-    BigInteger two = one.multiply(BigInteger.valueOf(31)).multiply(power).add(power.divide(BigInteger.valueOf(31)));
-    Check.answers("38: none", two.longValue(), () -> new Sumhoard().checksum());
+    BigInteger check = BigInteger.valueOf(7);
+    for (int hoard = 0; hoard < 2; hoard++) {
+      // No numbers, one way of 0, and none of 1 to 300.
+      check = next(next(check, 0), 1).multiply(BigInteger.valueOf(31).pow(300));
+    }
+    long due = check.longValue();
+    Check.answers("38: none", due, () -> new Sumhoard().checksum());
   }
 
   private static void promise38GoesRound() {
