@@ -86,9 +86,9 @@ final class ChoicesEdgesTest {
   }
 
   private static void promise27IsTheOtherWayRound() {
-    Sumhoard x = Check.with(1, 1, 2, 3, 5, 8, 13, 21);
     for (int choice = 0; choice < 256; choice++) {
       int told = choice;
+      Sumhoard x = Check.with(1, 1, 2, 3, 5, 8, 13, 21);
       Check.answers("27, 26: choice " + choice, choice,
           () -> x.choice(0, x.sumOf(0, told), x.rank(0, told)));
     }

@@ -320,10 +320,10 @@ final class LimitsTest {
   }
 
   private static void signs() {
-    Sumhoard x = wide();
     String inside = "&|^-";
     for (int sign = 0; sign < 256; sign++) {
       char how = (char) sign;
+      Sumhoard x = wide();
       if (inside.indexOf(how) >= 0) {
         Check.taken("30: compare " + how, () -> x.compare(0, 1, how));
       } else {
@@ -331,6 +331,7 @@ final class LimitsTest {
       }
     }
     // Their lower eight bits are those of the four.
+    Sumhoard x = wide();
     for (char sign : inside.toCharArray()) {
       char how = (char) (sign | 0x100);
       Check.refuses("30: compare, sign " + (int) how, NO_VALUE, x, () -> x.compare(0, 1, how));

@@ -12,6 +12,7 @@ import java.util.TreeSet;
 public final class Model {
   private final List<List<Integer>> hoards = List.of(new ArrayList<>(), new ArrayList<>());
   private final int[][] tables = new int[2][];
+  private final long[][] counts = new long[2][];
 
   private List<Integer> told(int hoard) {
     if (hoard < 0 || hoard > 1) {
@@ -44,6 +45,7 @@ public final class Model {
 
   private void changed(int hoard) {
     tables[hoard] = null;
+    counts[hoard] = null;
   }
 
   /** The sum of each choice. */
@@ -269,11 +271,15 @@ public final class Model {
   }
 
   private long[] allWays(int hoard) {
-    long[] ways = new long[301];
-    for (int sum : table(hoard)) {
-      ways[sum]++;
+    told(hoard);
+    if (counts[hoard] == null) {
+      long[] ways = new long[301];
+      for (int sum : table(hoard)) {
+        ways[sum]++;
+      }
+      counts[hoard] = ways;
     }
-    return ways;
+    return counts[hoard];
   }
 
   public int most(int hoard) {

@@ -4,7 +4,9 @@ import java.lang.management.ManagementFactory;
 final class RoomTest {
   // What the machine itself may take meanwhile; one row of 301 longs a call would be 1.2 million.
   private static final long SLACK = 100_000;
-  private static final int CALLS = 512;
+  // An object is promised for 512 calls: 20 to fill it, and 33 steps of at most 9 calls.
+  private static final int OBJECTS = 16;
+  private static final int STEPS = 32;
 
   interface Step {
     void play(Sumhoard x);
@@ -71,11 +73,16 @@ final class RoomTest {
   private static void makesNothing(String what, Step step) {
     com.sun.management.ThreadMXBean threads =
         (com.sun.management.ThreadMXBean) ManagementFactory.getThreadMXBean();
-    Sumhoard x = Check.with(Check.repeated(15, 20));
-    step.play(x);
+    Sumhoard[] objects = new Sumhoard[OBJECTS];
+    for (int i = 0; i < OBJECTS; i++) {
+      objects[i] = Check.with(Check.repeated(15, 20));
+      step.play(objects[i]);
+    }
     long before = threads.getCurrentThreadAllocatedBytes();
-    for (int call = 0; call < CALLS; call++) {
-      step.play(x);
+    for (Sumhoard x : objects) {
+      for (int i = 0; i < STEPS; i++) {
+        step.play(x);
+      }
     }
     long made = threads.getCurrentThreadAllocatedBytes() - before;
     Check.same(what + " makes nothing (" + made + " bytes)", true, made < SLACK);

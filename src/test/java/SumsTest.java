@@ -57,11 +57,11 @@ final class SumsTest {
   }
 
   private static void promise13IsSum() {
-    Sumhoard x = four();
-    Sumhoard none = new Sumhoard();
-    Sumhoard dense = dense();
     for (int sum = 0; sum <= 300; sum++) {
       int told = sum;
+      Sumhoard x = four();
+      Sumhoard none = new Sumhoard();
+      Sumhoard dense = dense();
       Check.answers("13: once " + sum, MADE_ONCE.contains(sum), () -> x.isSum(0, told, false));
       Check.answers("13: often " + sum, !GAPS_OFTEN.contains(sum), () -> x.isSum(1, told, true));
       Check.answers("13: of none " + sum, sum == 0, () -> none.isSum(0, told, false));

@@ -107,15 +107,16 @@ final class TheoremEdgesTest {
   }
 
   /** Exact, then cut to a long: 7, then for each hoard its size, its numbers and its ways. */
-  private static BigInteger exactOf(Sumhoard x) {
+  private static BigInteger exactOf(int[] first, int[] second) {
     BigInteger check = BigInteger.valueOf(7);
-    for (int hoard = 0; hoard < 2; hoard++) {
-      check = next(check, x.size(hoard));
-      for (int place = 0; place < x.size(hoard); place++) {
-        check = next(check, x.number(hoard, place));
+    for (int[] numbers : new int[][] {first, second}) {
+      Sumhoard x = Check.with(numbers);
+      check = next(check, numbers.length);
+      for (int number : numbers) {
+        check = next(check, number);
       }
       for (int sum = 0; sum <= 300; sum++) {
-        check = next(check, x.ways(hoard, sum, false));
+        check = next(check, x.ways(0, sum, false));
       }
     }
     return check;
@@ -136,13 +137,12 @@ final class TheoremEdgesTest {
   }
 
   private static void promise38GoesRound() {
-    Sumhoard[] objects = {
-      new Sumhoard(), Check.with(1), Check.withBoth(new int[0], new int[] {1}), full(),
-      Check.withBoth(new int[] {120, 120, 60}, new int[] {3, 5, 5, 8})
-    };
+    int[][] firsts = {{}, {1}, {}, Check.repeated(15, 20), {120, 120, 60}};
+    int[][] seconds = {{}, {}, {1}, Check.repeated(1, 20), {3, 5, 5, 8}};
     boolean isSeenBelow0 = false;
-    for (Sumhoard x : objects) {
-      BigInteger exact = exactOf(x);
+    for (int pair = 0; pair < firsts.length; pair++) {
+      Sumhoard x = Check.withBoth(firsts[pair], seconds[pair]);
+      BigInteger exact = exactOf(firsts[pair], seconds[pair]);
       Check.same("38: more than a long has", true, exact.bitLength() > 64);
       Check.answers("38: " + Check.stateOf(x), exact.longValue(), () -> x.checksum());
       isSeenBelow0 |= x.checksum() < 0;

@@ -1,3 +1,5 @@
+import java.util.Arrays;
+
 /** Promises 33 to 38. The theorem holds, so that 33 to 37 answer true wherever they do not throw. */
 final class TheoremTest {
   private static final Class<IndexOutOfBoundsException> NO_PLACE = IndexOutOfBoundsException.class;
@@ -17,7 +19,7 @@ final class TheoremTest {
   static void run() {
     for (int[] numbers : HOARDS) {
       holdsOf(Check.with(numbers));
-      holdsOfSome(Check.with(numbers));
+      holdsOfSome(numbers);
     }
     holdsOfOneObject();
     promise33IsPartedWrong();
@@ -39,14 +41,15 @@ final class TheoremTest {
         x.add(0, number);
       }
       int all = (1 << numbers.length) - 1;
-      playChoice(x, all & 0x55555);
-      playChoice(x, all & 0xff);
+      String again = Arrays.toString(numbers) + ", used again";
+      playChoice(x, all & 0x55555, again);
+      playChoice(x, all & 0xff, again);
       for (int place = 0; place < numbers.length; place += 3) {
         int told = place;
-        Check.answers("35: " + Check.numbersOf(x, 0) + ", used again", true, () -> x.isLeft(0, told));
+        Check.answers("35: " + again, true, () -> x.isLeft(0, told));
       }
-      Check.answers("36: " + Check.numbersOf(x, 0) + ", used again", true, () -> x.isOftenAlike(0));
-      Check.answers("37: " + Check.numbersOf(x, 0) + ", used again", true, () -> x.isSound());
+      Check.answers("36: " + again, true, () -> x.isOftenAlike(0));
+      Check.answers("37: " + again, true, () -> x.isSound());
     }
   }
 
@@ -61,19 +64,20 @@ final class TheoremTest {
     Check.same("35 to 37: nothing is changed", before, Check.stateOf(x));
   }
 
-  private static void holdsOfSome(Sumhoard x) {
-    String before = Check.stateOf(x);
-    int end = 1 << x.size(0);
+  private static void holdsOfSome(int[] numbers) {
+    int end = 1 << numbers.length;
     int step = Math.max(1, end / 61);
     for (int choice = 0; choice < end; choice += step) {
-      playChoice(x, choice);
-      playChoice(x, end - 1 - choice);
+      Sumhoard x = Check.with(numbers);
+      String before = Check.stateOf(x);
+      playChoice(x, choice, before);
+      playChoice(x, end - 1 - choice, before);
+      Check.same("33, 34: nothing is changed", before, Check.stateOf(x));
     }
-    Check.same("33, 34: nothing is changed", before, Check.stateOf(x));
   }
 
-  private static void playChoice(Sumhoard x, int choice) {
-    String told = Check.numbersOf(x, 0) + " choice " + choice;
+  private static void playChoice(Sumhoard x, int choice, String of) {
+    String told = of + " choice " + choice;
     Check.answers("33: " + told, true, () -> x.isParted(0, choice));
     if (Integer.bitCount(choice) <= 8) {
       Check.answers("34: " + told, true, () -> x.isAll(0, choice));
