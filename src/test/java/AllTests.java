@@ -17,6 +17,8 @@ public final class AllTests {
     TheoremEdgesTest.run();
     PlaysTest.run();
     TermsTest.run();
+    RowsTest.run();
+    ReadmeTest.run();
     FaceTest.run();
     RoomTest.run();
     ModelTest.run();
